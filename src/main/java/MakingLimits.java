@@ -313,7 +313,8 @@ public final class MakingLimits {
 
         int leastFor(Board board) {
             for (int cls = 0; cls < count; cls++) {
-                if (board.isMadeBy(grades[cls])) {
+                Grade grade = gradeAt(cls);
+                if (grade != null && board.isMadeBy(grade)) {
                     return cls;
                 }
             }

@@ -80,6 +80,8 @@ public final class TextTest {
         due(limits, "M0C1,2,3,4,5:1@1/1;", -13);
         due(limits, "M0C1,2,3,4,5,6,7:1@1/1;", -15);
         due(limits, "M0C,2,3,4,5,6:1@1/1;", -4);
+        due(limits, "M0C1,2,3,4,5,:1@1/1;", -14);
+        due(limits, "M0C:1@1/1;", -4);
         due(limits, "M0C" + SIX + ":/1;", -16);
         due(limits, "M0C" + SIX + ":1/1;", -17);
         due(limits, "M0C" + SIX + ":1@/1;", -18);
