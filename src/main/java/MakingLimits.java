@@ -343,7 +343,6 @@ public final class MakingLimits {
 
         void forget() {
             length = 0;
-            place = 0;
         }
 
         int place() {

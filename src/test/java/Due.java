@@ -8,20 +8,14 @@ final class Due {
     }
 
     static void same(String call, Object due, Supplier<Object> answer) {
-        String want = String.valueOf(due);
-        String got = answerOf(answer);
-        if (!want.equals(got)) {
+        same(call, String.valueOf(due), answerOf(answer));
+    }
+
+    static void same(String call, String due, String answer) {
+        if (!due.equals(answer)) {
             wrong++;
-            System.out.println(call + " answered " + got + ", due is " + want);
+            System.out.println(call + " answered " + answer + ", due is " + due);
         }
-    }
-
-    static void noIndex(String call, Supplier<Object> answer) {
-        same(call, "throws.IndexOutOfBoundsException", answer);
-    }
-
-    static void noArgument(String call, Supplier<Object> answer) {
-        same(call, "throws.IllegalArgumentException", answer);
     }
 
     /** The answer as a text; the exact class of an exception, so that none of the machine's own counts as due. */

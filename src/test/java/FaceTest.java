@@ -8,11 +8,22 @@ import java.util.TreeSet;
 /** The public face, and LANGUAGE.md's rule 1: that and no other member that is not private. */
 public final class FaceTest {
     private static final String[] METHODS = {
-        "boolean unit(int)", "int maker()", "int thing(int,long,int)", "boolean at(int,long,long)",
-        "int run(int,int)", "int remark(int,int)", "int least(int)", "long price(int,int,long)",
-        "long share(long,long,int)", "long balance(int,int,int)", "int quote(int,long)",
-        "boolean copper(int,int,long,long)", "int best(long)", "int order(int,long,long)",
-        "int history(int,int)", "void clear()",
+        "boolean unit(int)",
+        "int maker()",
+        "int thing(int,long,int) IndexOutOfBoundsException IllegalArgumentException",
+        "boolean at(int,long,long) IndexOutOfBoundsException IllegalArgumentException",
+        "int run(int,int) IndexOutOfBoundsException",
+        "int remark(int,int) IndexOutOfBoundsException",
+        "int least(int) IndexOutOfBoundsException",
+        "long price(int,int,long) IndexOutOfBoundsException IllegalArgumentException",
+        "long share(long,long,int) IndexOutOfBoundsException IllegalArgumentException",
+        "long balance(int,int,int) IndexOutOfBoundsException",
+        "int quote(int,long) IndexOutOfBoundsException",
+        "boolean copper(int,int,long,long) IndexOutOfBoundsException IllegalArgumentException",
+        "int best(long) IllegalArgumentException",
+        "int order(int,long,long) IndexOutOfBoundsException IllegalArgumentException",
+        "int history(int,int) IndexOutOfBoundsException",
+        "void clear()",
     };
 
     public static void main(String[] args) {
@@ -29,13 +40,21 @@ public final class FaceTest {
         TreeSet<String> found = new TreeSet<>();
         for (Method method : MakingLimits.class.getDeclaredMethods()) {
             if (!Modifier.isPrivate(method.getModifiers()) && !method.isSynthetic()) {
-                String modifiers = Modifier.toString(method.getModifiers());
-                String parameters = Arrays.toString(method.getParameterTypes()).replaceAll("[\\[\\] ]", "");
-                found.add((modifiers.equals("public") ? "" : modifiers + " ")
-                        + method.getReturnType() + " " + method.getName() + "(" + parameters + ")");
+                found.add(faceOf(method));
             }
         }
         return found;
+    }
+
+    private static String faceOf(Method method) {
+        String modifiers = Modifier.toString(method.getModifiers());
+        StringBuilder face = new StringBuilder(modifiers.equals("public") ? "" : modifiers + " ");
+        face.append(method.getReturnType()).append(' ').append(method.getName()).append('(');
+        face.append(Arrays.toString(method.getParameterTypes()).replaceAll("[\\[\\] ]", "")).append(')');
+        for (Class<?> thrown : method.getExceptionTypes()) {
+            face.append(' ').append(thrown.getSimpleName());
+        }
+        return face.toString();
     }
 
     private static TreeSet<String> openFields() {
@@ -61,7 +80,9 @@ public final class FaceTest {
         }
         for (Class<?> inner : MakingLimits.class.getDeclaredClasses()) {
             for (Method method : inner.getDeclaredMethods()) {
-                hidden.add(method.getName());
+                if (Modifier.isPrivate(method.getModifiers())) {
+                    hidden.add(method.getName());
+                }
             }
         }
         hidden.retainAll(open);
